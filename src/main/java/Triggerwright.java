@@ -213,8 +213,9 @@ public final class Triggerwright {
         checkGroup(record, channel, size, group);
         Capture capture = memory.captures[record];
         int start = size * group;
+        int end = groupEnd(capture, size, start);
         int result = capture.at(channel, start);
-        for (int position = start; position < groupEnd(capture, size, start); position++) {
+        for (int position = start; position < end; position++) {
             result = Math.min(result, capture.at(channel, position));
         }
         return result;
@@ -226,8 +227,9 @@ public final class Triggerwright {
         checkGroup(record, channel, size, group);
         Capture capture = memory.captures[record];
         int start = size * group;
+        int end = groupEnd(capture, size, start);
         int result = capture.at(channel, start);
-        for (int position = start; position < groupEnd(capture, size, start); position++) {
+        for (int position = start; position < end; position++) {
             result = Math.max(result, capture.at(channel, position));
         }
         return result;
@@ -239,11 +241,13 @@ public final class Triggerwright {
         checkGroup(record, channel, size, group);
         Capture capture = memory.captures[record];
         int start = size * group;
+        int end = groupEnd(capture, size, start);
         int sum = 0;
-        for (int position = start; position < groupEnd(capture, size, start); position++) {
+        for (int position = start; position < end; position++) {
             sum += capture.at(channel, position);
         }
-        return Math.floorDiv(sum, Math.max(1, groupEnd(capture, size, start) - start));
+        // A group that is not refused has samples; the 1 shows that the divisor is never 0.
+        return Math.floorDiv(sum, Math.max(1, end - start));
     }
 
     /** Counts at how many samples of a record the condition would fire if it looked at them alone. */
@@ -385,6 +389,7 @@ public final class Triggerwright {
         for (int position = 0; position < count; position++) {
             sum += row[position];
         }
+        // A record has its trigger sample at least; the 1 shows that the divisor is never 0.
         return (double) sum / (double) Math.max(1, count);
     }
 
@@ -800,7 +805,7 @@ public final class Triggerwright {
         /** Compares the record that became complete last with the mask. */
         void judgeLatest(Mask mask) {
             int latest = complete - 1;
-            if (latest < 0) {
+            if (latest < 0 || latest >= MOST_RECORDS) {
                 return;
             }
             int position = mask.lowestOffence(captures[latest]);

@@ -145,5 +145,11 @@ public final class MaskTest {
         scope.push(5, 0, 32);
         scope.push(4, 0, 1);
         Check.due("26: none at position 48", scope.failures(), 0);
+        scope.setMask(0, 48, 100, 100);
+        scope.clearMask();
+        scope.push(0, 0, 16);
+        scope.push(5, 0, 33);
+        Check.due("16: a second record", scope.records(), 2);
+        Check.due("25: no limits from 0 to 48", scope.failures(), 0);
     }
 }

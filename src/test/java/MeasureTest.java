@@ -15,6 +15,7 @@ public final class MeasureTest {
         traceRefused();
         boundsRefused();
         nothingChanges();
+        longThenShort();
         Check.finish("MeasureTest");
     }
 
@@ -180,5 +181,44 @@ public final class MeasureTest {
         Check.due("19: the record is still there", scope.value(0, 0, 1), -7);
         Check.due("34: the trace again", scope.least(0, 2), -2);
         Check.due("14: samples", scope.samples(), 4);
+    }
+
+    /** What was measured in a longer record must not show in a shorter one. */
+    private static void longThenShort() {
+        Triggerwright scope = new Triggerwright();
+        scope.setLengths(16, 32);
+        scope.arm();
+        scope.push(0, 0, 18);
+        for (int k = 0; k < 16; k++) {
+            Scopes.feed(scope, 20, 0);
+        }
+        Scopes.feed(scope, 30);
+        measureLong(scope, 0);
+        scope.putChannel(0);
+        measureLong(scope, 2);
+        scope.disarm();
+        scope.setLengths(0, 15);
+        scope.arm();
+        for (int k = 0; k < 16; k++) {
+            scope.push(Math.min(k, 2), 0, 1);
+        }
+        scope.push(0, 0, 1);
+        Check.due("18: a record of 16", scope.length(0), 16);
+        Check.due("34: least", scope.least(0, 0), 0);
+        Check.due("35: greatest", scope.greatest(0, 0), 2);
+        Check.due("36: average, 29 / 16", scope.average(0, 0), 29.0 / 16.0);
+        Check.due("37: crossings", scope.crossings(0, 0, 1), 1);
+        Check.nothingThere("38: period", () -> scope.period(0, 0, 1));
+        Check.nothingThere("39: riseTime", () -> scope.riseTime(0, 0, 0, 20));
+    }
+
+    private static void measureLong(Triggerwright scope, int source) {
+        Check.due("18: a record of 49", scope.length(0), 49);
+        Check.due("34: least", scope.least(0, source), 0);
+        Check.due("35: greatest", scope.greatest(0, source), 30);
+        Check.due("36: average", scope.average(0, source), 350.0 / 49.0);
+        Check.due("37: crossings", scope.crossings(0, source, 0), 17);
+        Check.due("38: period", scope.period(0, source, 0), 2.0);
+        Check.due("39: riseTime", scope.riseTime(0, source, 0, 30), 1);
     }
 }
