@@ -2,35 +2,60 @@
 final class Check {
     private static int wrong = 0;
     private static int asked = 0;
+    private static String where = "";
+    private static int askedBefore = 0;
 
     private Check() {
     }
 
-    static void due(String call, double got, double want) {
-        asked++;
-        if (got != want) {
+    /** From here on the checks are for this sentence of the document: of a promise, or of the terms, 0. */
+    static void sentence(int promise, String words) {
+        endSentence();
+        where = Sentences.quote(promise, words);
+        askedBefore = asked;
+    }
+
+    /** From here on the checks are for no sentence. */
+    static void endSentence() {
+        if (!where.isEmpty() && asked == askedBefore) {
             wrong++;
-            System.out.println(call + " answered " + got + ", due is " + want);
+            System.out.println(where + "has no check");
         }
+        where = "";
+    }
+
+    static void due(String call, double got, double want) {
+        same(call, got, want);
     }
 
     static void due(String call, boolean got, boolean want) {
-        due(call, got ? 1 : 0, want ? 1 : 0);
+        same(call, got, want);
     }
 
-    /** Checks that a call throws just the exception that is due, no kind of it. */
-    static void refused(String call, Class<? extends RuntimeException> due, Runnable body) {
+    static void same(String call, Object got, Object want) {
         asked++;
-        String got = "nothing";
+        if (!got.equals(want)) {
+            wrong++;
+            System.out.println(where + call + " answered " + got + ", due is " + want);
+        }
+    }
+
+    /** What a call throws, by its name; a kind of an exception is another one than the exception. */
+    private static String thrownBy(Runnable body) {
         try {
             body.run();
         } catch (RuntimeException e) {
-            got = e.getClass().getName();
+            return e.getClass().getName();
         }
-        if (!got.equals(due.getName())) {
-            wrong++;
-            System.out.println(call + " threw " + got + ", due is " + due.getName());
-        }
+        return "nothing";
+    }
+
+    static void refused(String call, Class<? extends RuntimeException> due, Runnable body) {
+        same(call + ", by what it throws,", thrownBy(body), due.getName());
+    }
+
+    static void taken(String call, Runnable body) {
+        same(call + ", by what it throws,", thrownBy(body), "nothing");
     }
 
     static void illegal(String call, Runnable body) {
@@ -51,6 +76,7 @@ final class Check {
 
     /** Ends a test's main method: with exit code 1 if an answer was wrong. */
     static void finish(String test) {
+        endSentence();
         System.out.println(test + ": " + asked + " checks, " + wrong + " wrong");
         if (wrong != 0 || asked == 0) {
             System.exit(1);

@@ -30,6 +30,15 @@ final class Scopes {
         return completed;
     }
 
+    /** Takes in any number of equal samples, in calls of 50 at the most, with 0 on channel 1. */
+    static int pushMany(Triggerwright scope, int value, int count) {
+        int completed = 0;
+        for (int left = count; left > 0; left -= 50) {
+            completed += scope.push(value, 0, Math.min(50, left));
+        }
+        return completed;
+    }
+
     /** How often the condition fires while these values come in on channel 0. */
     static int firings(Triggerwright scope, int... values) {
         int before = scope.fired();
